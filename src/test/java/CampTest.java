@@ -126,6 +126,17 @@ public final class CampTest {
         String looks = "look a 1;look b 1;look c 1;look d 1;";
         Due.faulty(looks + "look e 1;", 4, looks.length());
         Due.faulty("wide 1;hat", 2, 5);
+        String[] unlike = {"a", "z", "aa", "az", "za", "zz", "zzzzzzzz", "azzzzzzz", "zzzzzzza", "aaaaaaaa", "aaaaaaa"};
+        for (String one : unlike) {
+            for (String other : unlike) {
+                String text = "hut " + one + " 1 1 1;hut " + other + " 1 1 1;";
+                if (one.equals(other)) {
+                    Due.faulty(text, 3, 16 + one.length() - 1);
+                } else {
+                    Due.is(text, Due.withCamp(text).count(0), 2);
+                }
+            }
+        }
         // Names of other kinds are free.
         Due.is("names", Due.withCamp("hut a 1 1 1;garden a 1 1 1;look a 1;").count(0), 3);
     }
@@ -150,7 +161,7 @@ public final class CampTest {
         }
     }
 
-    private static final String DIG = "hut a 10 20 10;hut b 20 20 10;garden g 10 50 900;look l 50;count a 5;count b 20;pace 50;";
+    private static final String DIG = "hut a 10 20 10;hut b 20 20 10;garden g 10 50 900;look l 50;count a 5;count b 20;pace 49;";
 
     private static void resets() {
         TrouserSand x = Due.withCamp(DIG);
@@ -175,16 +186,16 @@ public final class CampTest {
         Due.is("count(0) stays", x.count(0), 7);
         Due.is("told(0) stays", x.told(0), 2);
         Due.is("TUNNELS stay", x.count(1), 1);
-        Due.is("feet stay", x.tunnel(0, 1), 20);
-        Due.is("SAND stays", x.lies(0), 195);
+        Due.is("feet stay", x.tunnel(0, 1), 19);
+        Due.is("SAND stays", x.lies(0), 185);
         Due.is("had stays", x.had(0), 5);
-        Due.is("boards stay", x.boards(), 40);
+        Due.is("boards stay", x.boards(), 42);
         Due.is("GONE stays", x.count(6), 2);
         Due.is("STRINGS stay", x.count(2), 1);
         Due.is("RIGHT stays", x.count(3), 1);
         Due.is("listed stays", x.listed(2) >= 0 ? 1 : 0, 1);
         Due.is("goes stays", x.goes(0, 1), 5);
-        Due.is("SLOTS stay", x.take(1), 20);
+        Due.is("SLOTS stay", x.take(1), 19);
         Due.is("camp()", Due.camp(x, DIG), 7);
         Due.is("fault(0)", x.fault(0), 0);
         Due.is("fault(1)", x.fault(1), -1);
@@ -200,10 +211,12 @@ public final class CampTest {
         Due.is("goes", x.goes(0, 0), -1);
         Due.is("take(0)", x.take(0), -4);
         Due.is("take(1)", x.take(1), -4);
+        Due.is("a new STRING", x.string(0, 5, 2, 1), 0);
+        Due.is("was never put RIGHT", x.right(0, 0, 5), 1);
         Due.is("PEOPLE stay", x.count(4), 2);
         Due.is("ROUNDS stay", x.count(5), 1);
         Due.is("drift", x.drift(1), 0);
-        Due.is("the latest STEP is 0", x.string(0, 1, 0, 0), 0);
+        Due.is("the latest STEP is 0", x.string(0, 1, 0, 0), 1);
         Due.is("a tunnel from the beginning", x.open(1), 0);
         for (int what = 1; what < 6; what++) {
             Due.is("tunnel(0, " + what + ")", x.tunnel(0, what), 0);

@@ -10,6 +10,7 @@ public final class DiggingTest {
         falls();
         carry();
         most();
+        callsMixed();
         mostAgainstTheModel();
         slots();
         shiftsAgainstTheModel();
@@ -203,11 +204,43 @@ public final class DiggingTest {
         slow.open(0);
         slow.shift(0, 1);
         Due.is("just in 99", slow.until(), 99);
+        Due.is("carry", slow.carry(0, 0, 98), 1);
+        Due.is("in one day", slow.until(), 1);
         slow = Due.withCamp("hut a 0 1 1;garden g 0 1 9999;sand 50;pace 10;walk 1;");
         slow.open(0);
         slow.shift(0, 2);
         Due.is("not in 99", slow.until(), -1);
         Due.is("most(99)", slow.most(99), 99);
+    }
+
+    /** What one call reckoned must not be seen in the next. */
+    private static void callsMixed() {
+        TrouserSand x = Due.withCamp("hut a 0 1 9;hut b 0 1 9;hut c 0 1 9;count a 0;count b 30;count c 60;garden g 0 9 99;"
+            + "garden h 400 9 99;garden i 400 9 99;reach 50;pace 10;");
+        x.open(0);
+        x.shift(0, 9);
+        x.gone(1, 2);
+        Due.is("runners()", x.runners(), 2);
+        Due.is("most(1)", x.most(1), 9);
+        Due.is("wrong()", x.wrong(), 2);
+        Due.is("most(99)", x.most(99), 90);
+        x.gone(1, 0);
+        x.gone(0, 1);
+        Due.is("runners()", x.runners(), -1);
+        Due.is("wrong()", x.wrong(), 2);
+        Due.camp(x, "hut a 0 1 9;garden g 0 9 5;garden h 400 9 99;reach 5;pace 10;");
+        x.open(0);
+        x.shift(0, 1);
+        Due.is("most(99) of another camp", x.most(99), 5);
+        Due.is("until()", x.until(), -1);
+        Due.camp(x, "hut a 0 1 9;hut b 0 1 9;count b 9;garden g 0 9 99;garden h 0 9 99;pace 10;");
+        x.open(0);
+        x.shift(0, 5);
+        Due.is("most(9)", x.most(9), 50);
+        x.gone(1, 1);
+        Due.is("a isn't counted", x.runners(), -1);
+        x.most(9);
+        Due.is("wrong()", x.wrong(), 1);
     }
 
     private static void mostAgainstTheModel() {
@@ -277,7 +310,7 @@ public final class DiggingTest {
     }
 
     private static void slots() {
-        TrouserSand x = Due.withCamp("hut a 0 1 10;hut b 0 1 10;garden g 0 9 99;pace 10;fall 50;");
+        TrouserSand x = Due.withCamp("hut a 0 1 10;hut b 0 1 10;garden g 0 9 99;pace 13;fall 50;");
         Due.is("keep(-1)", x.keep(-1), -2);
         Due.is("keep(2)", x.keep(2), -2);
         Due.is("take(-1)", x.take(-1), -2);
@@ -305,6 +338,14 @@ public final class DiggingTest {
         Due.is("take(1)", x.take(1), 0);
         Due.is("no TUNNELS", x.count(1), 0);
         Due.is("all boards", x.boards(), 80);
+        Due.is("take(0)", x.take(0), feet);
+        Due.is("as it was", state(x).equals(kept) ? 1 : 0, 1);
+        // Other tunnels from other HUTS meanwhile.
+        x.take(1);
+        x.open(1);
+        x.open(0);
+        x.shift(0, 7);
+        x.shift(1, 8);
         Due.is("take(0)", x.take(0), feet);
         Due.is("as it was", state(x).equals(kept) ? 1 : 0, 1);
     }

@@ -8,6 +8,7 @@ public final class NightTest {
         morning();
         order();
         best();
+        allRounds();
         againstTheModel();
         Due.finish();
     }
@@ -135,6 +136,26 @@ public final class NightTest {
         }
         Due.is("best(0) tells none", x.best(0), 0);
         Due.is("goes(0, 0)", x.goes(0, 0), -1);
+    }
+
+    /** Five ROUNDS, told from the last to the first, between one and the next who goes. */
+    private static void allRounds() {
+        TrouserSand x = new TrouserSand();
+        x.join(1, 0);
+        x.join(5, 0);
+        x.join(5, 0);
+        for (int from = 13; from >= 5; from -= 2) {
+            x.round(from, from + 1);
+        }
+        Due.is("best(19)", x.best(19), 3);
+        int[] row = {1, 0, 2};
+        int[] out = {5, 7, 19};
+        for (int i = 0; i < 3; i++) {
+            Due.is("goes(" + i + ", 0)", x.goes(i, 0), row[i]);
+            Due.is("goes(" + i + ", 1)", x.goes(i, 1), out[i]);
+        }
+        Due.is("order", Due.order(x, "12"), 19);
+        Due.is("order", Due.order(x, "012"), 24);
     }
 
     private static void againstTheModel() {
