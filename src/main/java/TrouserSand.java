@@ -1316,20 +1316,18 @@ public final class TrouserSand {
         }
 
         int along(int known) {
-            int sum = 0;
-            for (int k = 0; k < number; k++) {
-                if (toldAt[k] <= known) {
-                    sum += feetKnown(k, known) * ALONG[heading[k]];
-                }
-            }
-            return sum;
+            return sumOf(known, ALONG);
         }
 
         int toward(int known) {
+            return sumOf(known, TOWARD);
+        }
+
+        private int sumOf(int known, int[] tenthsAFoot) {
             int sum = 0;
             for (int k = 0; k < number; k++) {
                 if (toldAt[k] <= known) {
-                    sum += feetKnown(k, known) * TOWARD[heading[k]];
+                    sum += feetKnown(k, known) * tenthsAFoot[heading[k]];
                 }
             }
             return sum;
