@@ -1,422 +1,440 @@
-import java.util.ArrayList;
-import java.util.HashMap;
-import java.util.HashSet;
-import java.util.List;
-import java.util.Map;
-import java.util.Random;
-import java.util.Set;
-
-/** Promises 4 to 7: camp, fault, told, run. */
+/** Term I: the text of A CAMP, its bounds and its FAULTS. */
 public final class CampTest {
+    private static final int SYNTAX = 1;
+    private static final int RANGE = 2;
+    private static final int TWICE = 3;
+    private static final int ROOM = 4;
+    private static final int UNKNOWN = 5;
+    private static final String A = "hut a 1 1 1;";
+    private static final String A_B = "hut a 1 1 1;hut b 1 1 1;";
     private static final String FIVE = "hut a 1 1 1;hut b 2 2 2;hut c 3 3 3;hut d 4 4 4;hut e 5 5 5;";
+    private static final String[] SETTINGS = {"wide", "wood", "sand", "walk", "reach", "board", "air", "pace", "fall"};
 
     public static void main(String[] args) {
-        told();
-        runs();
-        faults();
-        bounds();
-        resets();
-        againstTheModel();
+        blanks();
+        words();
+        numbers();
+        clauses();
+        hutBounds();
+        gardenBounds();
+        countRunLookBounds();
+        settingBounds();
+        howMany();
+        names();
+        untold();
+        places();
+        firstFault();
+        leastKind();
+        syntax();
+        range();
+        twice();
+        room();
+        unknown();
         Due.finish();
     }
 
-    private static void told() {
-        TrouserSand x = new TrouserSand();
-        String text = FIVE + "garden a 7 8 9;garden hut 400 999 9999;garden c 0 0 0;garden count 1 2 3;"
-            + "look a 0;look look 99;look bb 5;look c 6;count e 99;count a 0;run a e 60;\n bed 20 3;"
-            + "wide 400;wood 300;sand 99;walk 40;reach 700;board 9;air 200;pace 50;fall 50;";
-        Due.is("camp()", Due.camp(x, text), 26);
-        Due.is("fault(0)", x.fault(0), 0);
-        Due.is("fault(1)", x.fault(1), -1);
-        Due.is("fault(2)", x.fault(2), -1);
-        Due.is("fault(-1)", x.fault(-1), -1);
-        Due.is("count(0)", x.count(0), 26);
-        int[] general = {5, 4, 4, 400, 300, 99, 40, 700, 9, 200, 50, 50, 20, 3};
-        for (int what = 0; what < 20; what++) {
-            Due.is("told(" + what + ")", x.told(what), what < general.length ? general[what] : -1);
+    private static void blanks() {
+        Due.term("I", "TOKENS with any blanks (32, 10) between");
+        Due.good("hut a1 2 3;wide10;", 2);
+        Due.good("hut a 1 2 3 ; wide 10 ;", 2);
+        Due.good("\n \n hut \n\n a\n1\n2\n3\n;\n   wide\n10\n;\n \n", 2);
+        Due.good("", 0);
+        Due.good(" ", 0);
+        Due.good("\n", 0);
+        Due.good(" \n\n  ", 0);
+        // A blank parts two WORDS and two N.
+        Due.good("hut a 1 2 3;count a\n4;", 2);
+        Due.faulty("hut a 1\n2;", SYNTAX, 9);
+        int[] noBlanks = {0, 8, 9, 11, 12, 13, 31, 33, 127, 128, 138, 160, 255};
+        for (int b : noBlanks) {
+            Due.faulty("wide" + (char) b + "10;", SYNTAX, 4);
+            Due.faulty("wide 10;" + (char) b, SYNTAX, 8);
         }
-        int[] minutes = {0, -1, -1, -1, 99};
-        int[] gardenX = {7, 400, 0, 1};
-        int[] gardenDay = {8, 999, 0, 2};
-        int[] gardenAll = {9, 9999, 0, 3};
-        int[] looks = {0, 99, 5, 6};
-        for (int i = 0; i < 10; i++) {
-            Due.is("told x " + i, x.told(20 + i), i < 5 ? i + 1 : -1);
-            Due.is("told back " + i, x.told(30 + i), i < 5 ? i + 1 : -1);
-            Due.is("told men " + i, x.told(40 + i), i < 5 ? i + 1 : -1);
-            Due.is("told minute " + i, x.told(50 + i), i < 5 ? minutes[i] : -1);
-            Due.is("told garden x " + i, x.told(60 + i), i < 4 ? gardenX[i] : -1);
-            Due.is("told a day " + i, x.told(70 + i), i < 4 ? gardenDay[i] : -1);
-            Due.is("told in all " + i, x.told(80 + i), i < 4 ? gardenAll[i] : -1);
-            Due.is("told look " + i, x.told(90 + i), i < 4 ? looks[i] : -1);
-        }
-        Due.is("told(-1)", x.told(-1), -1);
-        Due.is("told(100)", x.told(100), -1);
-        Due.is("told(least)", x.told(Integer.MIN_VALUE), -1);
-        Due.is("told(greatest)", x.told(Integer.MAX_VALUE), -1);
-        Due.is("no blanks needed", Due.camp(x, "huta1 1 1;"), -1);
-        Due.is("no blanks needed", Due.camp(x, "hut a1 2 3;count a5;bed7 6;"), 3);
-        Due.is("told(20)", x.told(20), 1);
-        Due.is("told(50)", x.told(50), 5);
-        Due.is("told(12)", x.told(12), 7);
-        Due.is("blanks", Due.camp(x, "\n\n hut\nabcdefgh 0001 02 \n3 ; "), 1);
-        Due.is("told(30)", x.told(30), 2);
-        Due.is("empty", Due.camp(x, ""), 0);
-        Due.is("told(0)", x.told(0), 0);
     }
 
-    private static void runs() {
-        TrouserSand x = Due.withCamp(FIVE + "run a b 60;run d c 0;run b e 7;");
-        Due.is("run(0, 1)", x.run(0, 1), 60);
-        Due.is("run(1, 0)", x.run(1, 0), 60);
-        Due.is("run(2, 3)", x.run(2, 3), 0);
-        Due.is("run(3, 2)", x.run(3, 2), 0);
-        Due.is("run(4, 1)", x.run(4, 1), 7);
-        Due.is("run(0, 4)", x.run(0, 4), 5);
-        for (int h = 0; h < 5; h++) {
-            Due.is("run to itself", x.run(h, h), 0);
-        }
-        Due.is("run(5, 0)", x.run(5, 0), -2);
-        Due.is("run(0, 5)", x.run(0, 5), -2);
-        Due.is("run(-1, 0)", x.run(-1, 0), -2);
-        Due.is("run(0, -1)", x.run(0, -1), -2);
-        Due.is("run(5, 5)", x.run(5, 5), -2);
-    }
-
-    private static void faults() {
-        Due.faulty("hut", 1, 3);
-        Due.faulty("hut ", 1, 4);
-        Due.faulty("hut a 1 1 1", 1, 11);
-        Due.faulty("hut a 1 1 1 1;", 1, 12);
-        Due.faulty("hut a 1 1;", 1, 9);
-        Due.faulty("hut 1 1 1;", 1, 4);
-        Due.faulty(";", 1, 0);
-        Due.faulty("wide 100;;", 1, 9);
-        Due.faulty("hat a 1 1 1;", 1, 0);
-        Due.faulty("hut A 1 1 1;", 1, 4);
-        Due.faulty("hut aB 1 1 1;", 1, 5);
-        Due.faulty("hut abcdefghi 1 1 1;", 1, 4);
-        Due.faulty("hut a 00001 1 1;", 1, 6);
-        Due.faulty("wide\t100;", 1, 4);
-        Due.faulty("wide -1;", 1, 5);
-        Due.faulty("wide a;", 1, 5);
-        Due.faulty("run a b 5;", 5, 4);
-        Due.faulty("hut a 1 1 1;run a b 5;", 5, 18);
-        Due.faulty("hut a 1 1 1;run b a 5;", 5, 16);
-        Due.faulty("hut a 1 1 1;run a a 5;", 3, 18);
-        Due.faulty("hut a 1 1 1;hut b 1 1 1;run a b 5;run b a 5;", 3, 40);
-        Due.faulty("hut a 1 1 1;hut b 1 1 1;run a b 61;", 2, 32);
-        Due.faulty("hut a 1 1 1;hut a 1 1 1;", 3, 16);
-        Due.faulty("garden a 1 1 1;garden a 1 1 1;", 3, 22);
-        Due.faulty("look a 1;look a 1;", 3, 14);
-        Due.faulty("garden a 1 1 1;count a 1;", 5, 21);
-        Due.faulty("count a 1;hut a 1 1 1;", 5, 6);
-        Due.faulty("hut a 1 1 1;count a 1;count a 1;", 3, 28);
-        Due.faulty("bed 1 1;bed 1 1;", 3, 8);
-        String[] single = {"wide", "wood", "sand", "walk", "reach", "board", "air", "pace", "fall"};
-        for (String name : single) {
-            String once = name + (name.equals("wide") || name.equals("air") ? " 10;" : " 9;");
-            Due.faulty(once + " " + once, 3, once.length() + 1);
-            Due.faulty(name + ";", 1, name.length());
-        }
-        Due.faulty(FIVE + "hut a 1 1 1;", 4, FIVE.length());
-        Due.faulty(FIVE + "\nhut f 1 1 1;", 4, FIVE.length() + 1);
-        String gardens = "garden a 1 1 1;garden b 1 1 1;garden c 1 1 1;garden d 1 1 1;";
-        Due.faulty(gardens + "garden e 1 1 1;", 4, gardens.length());
-        String looks = "look a 1;look b 1;look c 1;look d 1;";
-        Due.faulty(looks + "look e 1;", 4, looks.length());
-        Due.faulty("wide 1;hat", 2, 5);
-        String[] unlike = {"a", "z", "aa", "az", "za", "zz", "zzzzzzzz", "azzzzzzz", "zzzzzzza", "aaaaaaaa", "aaaaaaa"};
+    private static void words() {
+        Due.term("I", "WORDS (small letters, as many as there are, 8 at most)");
+        Due.good("hut abcdefgh 1 1 1;", 1);
+        Due.good("hut zzzzzzzz 1 1 1;", 1);
+        Due.good("hut a 1 1 1;", 1);
+        Due.faulty("hut abcdefghi 1 1 1;", SYNTAX, 4);
+        Due.faulty("hut abcdefghabcdefghabcdefgh 1 1 1;", SYNTAX, 4);
+        Due.faulty("wide 10;abcdefghi", SYNTAX, 8);
+        Due.faulty("gardengarden g 1 1 1;", SYNTAX, 0);
+        // As many letters as there are: no WORD ends where a keyword would.
+        Due.faulty("huta 1 1 1;", SYNTAX, 0);
+        Due.faulty("wid 10;", SYNTAX, 0);
+        Due.faulty("wides 10;", SYNTAX, 0);
+        // The bytes next to a and z, and other letters, are none.
+        Due.faulty("hut `a 1 1 1;", SYNTAX, 4);
+        Due.faulty("hut {a 1 1 1;", SYNTAX, 4);
+        Due.faulty("hut a` 1 1 1;", SYNTAX, 5);
+        Due.faulty("hut z{ 1 1 1;", SYNTAX, 5);
+        Due.faulty("hut A 1 1 1;", SYNTAX, 4);
+        Due.faulty("Hut a 1 1 1;", SYNTAX, 0);
+        Due.faulty("hut aB 1 1 1;", SYNTAX, 5);
+        Due.faulty("hut a" + (char) 228 + " 1 1 1;", SYNTAX, 5);
+        Due.faulty("hut " + (char) ('a' + 128) + " 1 1 1;", SYNTAX, 4);
+        // All letters of a name count, up to the eighth.
+        String[] unlike = {"a", "b", "z", "aa", "ab", "ba", "bb", "az", "za", "zz", "zzzzzzzz", "azzzzzzz", "zzzzzzza", "aaaaaaaa", "aaaaaaa"};
         for (String one : unlike) {
             for (String other : unlike) {
                 String text = "hut " + one + " 1 1 1;hut " + other + " 1 1 1;";
                 if (one.equals(other)) {
-                    Due.faulty(text, 3, 16 + one.length() - 1);
+                    Due.faulty(text, TWICE, 15 + one.length());
                 } else {
-                    Due.is(text, Due.withCamp(text).count(0), 2);
+                    Due.good(text, 2);
                 }
             }
         }
-        // Names of other kinds are free.
-        Due.is("names", Due.withCamp("hut a 1 1 1;garden a 1 1 1;look a 1;").count(0), 3);
     }
 
-    private static void bounds() {
-        String[] before = {"hut a ", "hut a 1 ", "hut a 1 1 ", "garden a ", "garden a 1 ", "garden a 1 1 ",
-            "hut a 1 1 1;count a ", "hut a 1 1 1;hut b 1 1 1;run a b ", "look a ", "bed ", "bed 1 ", "wide ", "wood ",
-            "sand ", "walk ", "reach ", "board ", "air ", "pace ", "fall "};
-        String[] behind = {" 1 1;", " 1;", ";", " 1 1;", " 1;", ";", ";", ";", ";", " 1;", ";", ";", ";", ";", ";", ";",
-            ";", ";", ";", ";"};
-        int[] least = {0, 1, 1, 0, 0, 0, 0, 0, 0, 0, 0, 10, 0, 1, 1, 0, 0, 10, 1, 0};
-        int[] greatest = {400, 300, 40, 400, 999, 9999, 99, 60, 99, 20, 20, 400, 300, 99, 40, 700, 9, 200, 50, 50};
-        for (int i = 0; i < before.length; i++) {
-            Due.is(before[i] + least[i], Due.withCamp(before[i] + least[i] + behind[i]).fault(0), 0);
-            Due.is(before[i] + greatest[i], Due.withCamp(before[i] + greatest[i] + behind[i]).fault(0), 0);
-            if (least[i] > 0) {
-                Due.faulty(before[i] + (least[i] - 1) + behind[i], 2, before[i].length());
-            }
-            if (greatest[i] < 9999) {
-                Due.faulty(before[i] + (greatest[i] + 1) + behind[i], 2, before[i].length());
-            }
-        }
+    private static void numbers() {
+        Due.term("I", "N (digits, as many as there are, 4 at most)");
+        Due.is("four digits", Due.good("garden g 0 0 9999;", 1).told(80), 9999);
+        Due.is("four digits", Due.good("wide 0010;", 1).told(3), 10);
+        Due.is("all ten digits", Due.good("garden g 0 0 1234;garden h 0 0 5678;garden i 0 0 90;", 3).told(81), 5678);
+        Due.is("0000", Due.good("wood 0000;", 1).told(4), 0);
+        Due.faulty("wide 00010;", SYNTAX, 5);
+        Due.faulty("wood 00000;", SYNTAX, 5);
+        Due.faulty("garden g 0 0 10000;", SYNTAX, 13);
+        // Too many for an int, and one that would wrap around to 10.
+        Due.faulty("wide 4294967306;", SYNTAX, 5);
+        Due.faulty("wide 99999999999999999999;", SYNTAX, 5);
+        Due.faulty("wide /1;", SYNTAX, 5);
+        Due.faulty("wide :1;", SYNTAX, 5);
+        Due.faulty("wide 10:", SYNTAX, 7);
+        Due.faulty("wide 10/;", SYNTAX, 7);
+        Due.faulty("wide -1;", SYNTAX, 5);
+        Due.faulty("wide +10;", SYNTAX, 5);
+        Due.faulty("wide 10.0;", SYNTAX, 7);
+        Due.faulty("wide " + (char) ('1' + 128) + "0;", SYNTAX, 5);
     }
 
-    private static final String DIG = "hut a 10 20 10;hut b 20 20 10;garden g 10 50 900;look l 50;count a 5;count b 20;pace 49;";
-
-    private static void resets() {
-        TrouserSand x = Due.withCamp(DIG);
-        x.chance(7);
-        x.open(0);
-        x.shift(0, 4);
-        x.carry(0, 0, 5);
-        x.keep(0);
-        x.keep(1);
-        x.gone(1, 2);
-        x.drift(4);
-        x.string(9, 5, 2, 1);
-        x.right(9, 0, 6);
-        x.join(5, 0);
-        x.join(6, 1);
-        x.round(20, 30);
-        x.best(50);
-        x.list(1, 3, 0, 0, 0, 0);
-        Due.is("a faulty camp()", Due.camp(x, "hut a 1;"), -1);
-        Due.is("fault(0)", x.fault(0), 1);
-        Due.is("fault(1)", x.fault(1), 7);
-        Due.is("count(0) stays", x.count(0), 7);
-        Due.is("told(0) stays", x.told(0), 2);
-        Due.is("TUNNELS stay", x.count(1), 1);
-        Due.is("feet stay", x.tunnel(0, 1), 19);
-        Due.is("SAND stays", x.lies(0), 185);
-        Due.is("had stays", x.had(0), 5);
-        Due.is("boards stay", x.boards(), 42);
-        Due.is("GONE stays", x.count(6), 2);
-        Due.is("STRINGS stay", x.count(2), 1);
-        Due.is("RIGHT stays", x.count(3), 1);
-        Due.is("listed stays", x.listed(2) >= 0 ? 1 : 0, 1);
-        Due.is("goes stays", x.goes(0, 1), 5);
-        Due.is("SLOTS stay", x.take(1), 19);
-        Due.is("camp()", Due.camp(x, DIG), 7);
-        Due.is("fault(0)", x.fault(0), 0);
-        Due.is("fault(1)", x.fault(1), -1);
-        Due.is("TUNNELS", x.count(1), 0);
-        Due.is("tunnel(0, 0)", x.tunnel(0, 0), -2);
-        Due.is("SAND", x.lies(0), 0);
-        Due.is("had", x.had(0), 0);
-        Due.is("boards", x.boards(), 80);
-        Due.is("GONE", x.count(6), 0);
-        Due.is("STRINGS", x.count(2), 0);
-        Due.is("RIGHT", x.count(3), 0);
-        Due.is("listed", x.listed(0), -1);
-        Due.is("goes", x.goes(0, 0), -1);
-        Due.is("take(0)", x.take(0), -4);
-        Due.is("take(1)", x.take(1), -4);
-        Due.is("a new STRING", x.string(0, 5, 2, 1), 0);
-        Due.is("was never put RIGHT", x.right(0, 0, 5), 1);
-        Due.is("PEOPLE stay", x.count(4), 2);
-        Due.is("ROUNDS stay", x.count(5), 1);
-        Due.is("drift", x.drift(1), 0);
-        Due.is("the latest STEP is 0", x.string(0, 1, 0, 0), 1);
-        Due.is("a tunnel from the beginning", x.open(1), 0);
-        for (int what = 1; what < 6; what++) {
-            Due.is("tunnel(0, " + what + ")", x.tunnel(0, what), 0);
-        }
-        chanceStays();
+    private static void clauses() {
+        Due.term("I", "A CAMP is a text =");
+        Due.good("", 0);
+        Due.good("wide 10;", 1);
+        Due.faulty(";", SYNTAX, 0);
+        Due.faulty("wide 10;;", SYNTAX, 8);
+        Due.faulty("wide 10", SYNTAX, 7);
+        Due.faulty("wide 10 wood 1;", SYNTAX, 8);
+        Due.faulty("wide 10, wood 1;", SYNTAX, 7);
+        String all = "hut a 1 1 1;hut b 1 1 1;garden a 1 1 1;count a 1;run a b 1;look a 1;bed 1 1;wide 10;wood 1;sand 1;"
+            + "walk 1;reach 1;board 1;air 10;pace 1;fall 1;";
+        Due.good(all, 16);
+        // In any order, but that a HUT is told ahead of its count and run.
+        Due.good("fall 1;pace 1;air 10;bed 1 1;look a 1;garden a 1 1 1;hut b 1 1 1;hut a 1 1 1;run a b 1;count a 1;", 10);
     }
 
-    private static void chanceStays() {
-        String text = "hut a 10 20 40;board 0;pace 10;fall 50;";
-        TrouserSand x = Due.withCamp(text);
-        TrouserSand y = Due.withCamp(text);
-        x.open(0);
-        y.open(0);
-        for (int i = 0; i < 5; i++) {
-            x.shift(0, 1);
-            y.shift(0, 1);
+    /** A text's front, its bounds and its back: the least and the greatest are taken, those beyond are RANGE. */
+    private static void bounds(String front, int least, int greatest, String back) {
+        int clauses = (front + back).split(";", -1).length - 1;
+        Due.good(front + least + back, clauses);
+        Due.good(front + greatest + back, clauses);
+        if (least > 0) {
+            Due.faulty(front + (least - 1) + back, RANGE, front.length());
         }
-        Due.camp(x, text);
-        x.open(0);
-        int before = y.tunnel(0, 4);
-        for (int i = 0; i < 20; i++) {
-            x.shift(0, 1);
-            y.shift(0, 1);
-            Due.is("falls by THE CHANCE that stays", x.tunnel(0, 4), y.tunnel(0, 4) - before);
+        if (greatest < 9999) {
+            Due.faulty(front + (greatest + 1) + back, RANGE, front.length());
+            Due.faulty(front + 9999 + back, RANGE, front.length());
         }
     }
 
-    private static final String[] PIECES = {"hut", "garden", "count", "run", "look", "bed", "wide", "wood", "sand", "walk",
-        "reach", "board", "air", "pace", "fall", "a", "b", "c", "0", "1", "5", "20", "400", "9999", ";", ";", "abcdefghi",
-        "12345", "!", "X"};
-
-    private static void againstTheModel() {
-        Random random = new Random(5);
-        TrouserSand x = new TrouserSand();
-        int calls = 0;
-        for (int i = 0; i < 30000; i++) {
-            String text = randomText(random);
-            if (calls > 400) {
-                x = new TrouserSand();
-                calls = 0;
-            }
-            calls += text.length() / 20 + 6;
-            Model model = new Model(text);
-            Due.is("camp() of " + text, Due.camp(x, text), model.kind == 0 ? model.clauses : -1);
-            Due.is("fault(0) of " + text, x.fault(0), model.kind);
-            Due.is("fault(1) of " + text, x.fault(1), model.kind == 0 ? -1 : model.place);
-        }
+    private static void hutBounds() {
+        Due.term("I", "hut: its x 0 .. 400 feet along the wire");
+        bounds("hut a ", 0, 400, " 1 1;");
+        Due.is("told(20)", Due.withCamp("hut a 400 300 40;").told(20), 400);
+        Due.is("told(20)", Due.withCamp("hut a 0 1 1;").told(20), 0);
+        Due.term("I", "how far it is back from the wire 1 .. 300 feet");
+        bounds("hut a 1 ", 1, 300, " 1;");
+        Due.is("told(30)", Due.withCamp("hut a 400 300 40;").told(30), 300);
+        Due.is("told(30)", Due.withCamp("hut a 0 1 1;").told(30), 1);
+        Due.term("I", "its MEN 1 .. 40");
+        bounds("hut a 1 1 ", 1, 40, ";");
+        Due.is("told(40)", Due.withCamp("hut a 400 300 40;").told(40), 40);
+        Due.is("told(40)", Due.withCamp("hut a 0 1 1;").told(40), 1);
     }
 
-    private static String randomText(Random random) {
-        StringBuilder text = new StringBuilder();
-        int clauses = random.nextInt(14);
-        for (int c = 0; c < clauses; c++) {
-            text.append(randomClause(random));
-        }
-        if (random.nextInt(3) == 0 && text.length() > 0) {
-            int at = random.nextInt(text.length());
-            String piece = PIECES[random.nextInt(PIECES.length)];
-            text.replace(at, Math.min(text.length(), at + random.nextInt(4)), random.nextBoolean() ? piece : " ");
-        }
-        if (random.nextInt(8) == 0) {
-            text.setLength(random.nextInt(text.length() + 1));
-        }
-        text.setLength(Math.min(text.length(), 900));
-        return text.toString();
+    private static void gardenBounds() {
+        Due.term("I", "garden: its x 0 .. 400");
+        bounds("garden g ", 0, 400, " 1 1;");
+        Due.is("told(60)", Due.withCamp("garden g 400 999 9999;").told(60), 400);
+        Due.is("told(60)", Due.withCamp("garden g 0 1 1;").told(60), 0);
+        Due.term("I", "ROOM a day 0 .. 999 half pounds");
+        bounds("garden g 1 ", 0, 999, " 1;");
+        Due.is("told(70)", Due.withCamp("garden g 400 999 9999;").told(70), 999);
+        Due.is("told(70)", Due.withCamp("garden g 1 0 1;").told(70), 0);
+        Due.term("I", "ROOM in all 0 .. 9999");
+        bounds("garden g 1 1 ", 0, 9999, ";");
+        Due.is("told(80)", Due.withCamp("garden g 400 999 9999;").told(80), 9999);
+        Due.is("told(80)", Due.withCamp("garden g 1 1 0;").told(80), 0);
     }
 
-    private static String randomClause(Random random) {
-        String[] names = {"a", "b", "c", "d", "hut", "abcdefgh"};
-        String keyword = PIECES[random.nextInt(15)];
-        StringBuilder clause = new StringBuilder(keyword);
-        int[] shape = Model.SHAPES.get(keyword);
-        for (int w = 0; w < shape[0]; w++) {
-            clause.append(' ').append(names[random.nextInt(names.length)]);
-        }
-        for (int n = 0; n < shape[1]; n++) {
-            int least = shape[2 + 2 * n];
-            int greatest = shape[3 + 2 * n];
-            int value = random.nextInt(12) == 0 ? random.nextInt(9999) : least + random.nextInt(greatest - least + 1);
-            clause.append(random.nextInt(9) == 0 ? '\n' : ' ').append(value);
-        }
-        return clause.append(random.nextBoolean() ? ";" : " ;\n").toString();
+    private static void countRunLookBounds() {
+        Due.term("I", "count: the minute 0 .. 99 at which the guards count a HUT");
+        bounds(A + "count a ", 0, 99, ";");
+        Due.is("told(50)", Due.withCamp(A + "count a 0;").told(50), 0);
+        Due.is("told(50)", Due.withCamp(A + "count a 99;").told(50), 99);
+        Due.term("I", "run: minutes 0 .. 60 between two HUTS");
+        bounds(A_B + "run a b ", 0, 60, ";");
+        Due.is("run(0, 1)", Due.withCamp(A_B + "run a b 0;").run(0, 1), 0);
+        Due.is("run(0, 1)", Due.withCamp(A_B + "run a b 60;").run(0, 1), 60);
+        Due.term("I", "look: of a hundred days how many it would find a tunnel on, 0 .. 99");
+        bounds("look a ", 0, 99, ";");
+        Due.is("told(90)", Due.withCamp("look a 0;").told(90), 0);
+        Due.is("told(90)", Due.withCamp("look a 99;").told(90), 99);
     }
 
-    /** The same grammar read in another way: all TOKENS first, then clause by clause. */
-    private static final class Model {
-        static final Map<String, int[]> SHAPES = new HashMap<>();
+    private static void setting(String name, int least, int greatest, int untold, int what) {
+        bounds(name + " ", least, greatest, ";");
+        Due.is("told(" + what + ") untold", Due.withCamp("").told(what), untold);
+        Due.is("told(" + what + ")", Due.withCamp(name + " " + least + ";").told(what), least);
+        Due.is("told(" + what + ")", Due.withCamp(name + " " + greatest + ";").told(what), greatest);
+    }
 
-        static {
-            SHAPES.put("hut", new int[] {1, 3, 0, 400, 1, 300, 1, 40});
-            SHAPES.put("garden", new int[] {1, 3, 0, 400, 0, 999, 0, 9999});
-            SHAPES.put("count", new int[] {1, 1, 0, 99});
-            SHAPES.put("run", new int[] {2, 1, 0, 60});
-            SHAPES.put("look", new int[] {1, 1, 0, 99});
-            SHAPES.put("bed", new int[] {0, 2, 0, 20, 0, 20});
-            SHAPES.put("wide", new int[] {0, 1, 10, 400});
-            SHAPES.put("wood", new int[] {0, 1, 0, 300});
-            SHAPES.put("sand", new int[] {0, 1, 1, 99});
-            SHAPES.put("walk", new int[] {0, 1, 1, 40});
-            SHAPES.put("reach", new int[] {0, 1, 0, 700});
-            SHAPES.put("board", new int[] {0, 1, 0, 9});
-            SHAPES.put("air", new int[] {0, 1, 10, 200});
-            SHAPES.put("pace", new int[] {0, 1, 1, 50});
-            SHAPES.put("fall", new int[] {0, 1, 0, 50});
+    private static void settingBounds() {
+        Due.term("I", "boards that a bed has 0 .. 20 and must keep 0 .. 20 (8, 4)");
+        bounds("bed ", 0, 20, " 1;");
+        bounds("bed 1 ", 0, 20, ";");
+        Due.is("told(12) untold", Due.withCamp("").told(12), 8);
+        Due.is("told(13) untold", Due.withCamp("").told(13), 4);
+        Due.is("told(12)", Due.withCamp("bed 20 0;").told(12), 20);
+        Due.is("told(13)", Due.withCamp("bed 20 0;").told(13), 0);
+        Due.is("told(12)", Due.withCamp("bed 0 20;").told(12), 0);
+        Due.is("told(13)", Due.withCamp("bed 0 20;").told(13), 20);
+        Due.term("I", "wide 10 .. 400 feet (200)");
+        setting("wide", 10, 400, 200, 3);
+        Due.term("I", "wood 0 .. 300 feet beyond the wire (100)");
+        setting("wood", 0, 300, 100, 4);
+        Due.term("I", "sand 1 .. 99 half pounds a foot (10)");
+        setting("sand", 1, 99, 10, 5);
+        Due.term("I", "walk 1 .. 40 half pounds that a man takes out a day (6)");
+        setting("walk", 1, 40, 6, 6);
+        Due.term("I", "reach 0 .. 700 feet (200)");
+        setting("reach", 0, 700, 200, 7);
+        Due.term("I", "board 0 .. 9 a foot (2)");
+        setting("board", 0, 9, 2, 8);
+        Due.term("I", "air 10 .. 200 feet (60)");
+        setting("air", 10, 200, 60, 9);
+        Due.term("I", "pace 1 .. 50 tenths of a foot (5)");
+        setting("pace", 1, 50, 5, 10);
+        Due.term("I", "fall 0 .. 50 of a hundred (0)");
+        setting("fall", 0, 50, 0, 11);
+    }
+
+    private static void howMany() {
+        Due.term("I", "HUTS, at most 5");
+        Due.is("told(0)", Due.good(FIVE, 5).told(0), 5);
+        Due.faulty(FIVE + "hut f 1 1 1;", ROOM, FIVE.length());
+        Due.term("I", "GARDENS, at most 4");
+        String gardens = "garden a 1 1 1;garden b 1 1 1;garden c 1 1 1;garden d 1 1 1;";
+        Due.is("told(1)", Due.good(gardens, 4).told(1), 4);
+        Due.faulty(gardens + "garden e 1 1 1;", ROOM, gardens.length());
+        Due.term("I", "LOOKS, at most 4");
+        String looks = "look a 1;look b 1;look c 1;look d 1;";
+        Due.is("told(2)", Due.good(looks, 4).told(2), 4);
+        Due.faulty(looks + "look e 1;", ROOM, looks.length());
+        Due.is("all of them", Due.good(FIVE + gardens + looks, 13).count(0), 13);
+        Due.term("I", "are numbered from 0 as they come");
+        TrouserSand x = Due.good("look z 7;hut z 9 1 1;garden z 8 1 1;look a 6;garden a 5 1 1;hut a 3 1 1;", 6);
+        Due.is("told(20)", x.told(20), 9);
+        Due.is("told(21)", x.told(21), 3);
+        Due.is("told(60)", x.told(60), 8);
+        Due.is("told(61)", x.told(61), 5);
+        Due.is("told(90)", x.told(90), 7);
+        Due.is("told(91)", x.told(91), 6);
+    }
+
+    private static void names() {
+        Due.term("I", "names: any WORDS, of one kind unlike");
+        Due.good("hut a 1 1 1;garden a 1 1 1;look a 1;", 3);
+        String[] keywords = {"hut", "garden", "count", "run", "look", "bed"};
+        for (String name : keywords) {
+            Due.good("hut " + name + " 1 1 1;garden " + name + " 1 1 1;look " + name + " 1;count " + name + " 1;", 4);
         }
+        for (String name : SETTINGS) {
+            Due.good("hut " + name + " 1 1 1;garden " + name + " 1 1 1;look " + name + " 1;count " + name + " 1;", 4);
+        }
+        Due.good("hut run 1 1 1;hut hut 1 1 1;run run hut 1;", 3);
+        Due.faulty("hut a 1 1 1;hut a 2 2 2;", TWICE, 16);
+        Due.faulty("garden a 1 1 1;garden a 2 2 2;", TWICE, 22);
+        Due.faulty("look a 1;look a 2;", TWICE, 14);
+    }
 
-        int kind;
-        int place;
-        int clauses;
-        private final List<String> tokens = new ArrayList<>();
-        private final List<Integer> places = new ArrayList<>();
-        private int next = 0;
-
-        Model(String text) {
-            java.util.regex.Matcher m = java.util.regex.Pattern.compile("[a-z]+|[0-9]+|[^ \n]").matcher(text);
-            while (m.find()) {
-                tokens.add(m.group());
-                places.add(m.start());
-            }
-            tokens.add("");
-            places.add(text.length());
-            Set<String> used = new HashSet<>();
-            Map<String, Integer> number = new HashMap<>();
-            while (kind == 0 && !tokens.get(next).isEmpty()) {
-                clause(used, number);
+    private static void untold() {
+        Due.term("I", "either way (5, if untold)");
+        TrouserSand x = Due.withCamp(FIVE + "run a b 60;run d c 0;run b e 7;");
+        int[][] due = {{0, 60, 5, 5, 5}, {60, 0, 5, 5, 7}, {5, 5, 0, 0, 5}, {5, 5, 0, 0, 5}, {5, 7, 5, 5, 0}};
+        for (int h = 0; h < 5; h++) {
+            for (int o = 0; o < 5; o++) {
+                Due.is("run(" + h + ", " + o + ")", x.run(h, o), due[h][o]);
             }
         }
-
-        private boolean refuse(int k) {
-            kind = k;
-            place = places.get(next);
-            return false;
+        Due.term("I", "Bounds (and what isn't told)");
+        // What an earlier CAMP told is told no more.
+        x = Due.withCamp(A_B + "count a 9;run a b 9;bed 9 9;wide 99;wood 9;sand 9;walk 9;reach 9;board 9;air 99;pace 9;fall 9;");
+        Due.is("camp()", Due.camp(x, A_B), 2);
+        int[] untold = {2, 0, 0, 200, 100, 10, 6, 200, 2, 60, 5, 0, 8, 4};
+        for (int what = 0; what < untold.length; what++) {
+            Due.is("told(" + what + ")", x.told(what), untold[what]);
         }
+        Due.is("told(50)", x.told(50), -1);
+        Due.is("run(0, 1)", x.run(0, 1), 5);
+        Due.is("a faulty text tells nothing", Due.camp(x, A + "wide 77;count a 7;bed 3 3;!"), -1);
+        Due.is("told(3)", x.told(3), 200);
+        Due.is("the same text, mended", Due.camp(x, A + "wide 78;count a 8;bed 4 4;"), 4);
+        Due.is("told(3)", x.told(3), 78);
+    }
 
-        private void clause(Set<String> used, Map<String, Integer> number) {
-            String keyword = tokens.get(next);
-            int[] shape = SHAPES.get(keyword);
-            if (shape == null) {
-                refuse(1);
-                return;
-            }
-            if (shape[0] == 0 && !used.add(keyword)) {
-                refuse(3);
-                return;
-            }
-            int limit = keyword.equals("hut") ? 5 : keyword.equals("garden") || keyword.equals("look") ? 4 : 1000;
-            if (number.merge(keyword, 1, Integer::sum) > limit) {
-                refuse(4);
-                return;
-            }
-            next++;
-            if (!names(keyword, shape[0], used)) {
-                return;
-            }
-            for (int n = 0; n < shape[1]; n++) {
-                String token = tokens.get(next);
-                if (!token.matches("[0-9]{1,4}")) {
-                    refuse(1);
-                    return;
-                }
-                int value = Integer.parseInt(token);
-                if (value < shape[2 + 2 * n] || value > shape[3 + 2 * n]) {
-                    refuse(2);
-                    return;
-                }
-                next++;
-            }
-            if (!tokens.get(next).equals(";")) {
-                refuse(1);
-                return;
-            }
-            next++;
-            clauses++;
+    private static void places() {
+        Due.term("I", "PLACE (a TOKEN's first byte; the text's length at its end)");
+        Due.faulty("  wide  9  ;", RANGE, 8);
+        Due.faulty("hut abc 1 1 1;hut abc", TWICE, 18);
+        Due.faulty("hut abc 1 1 1;\ncount abd 1;", UNKNOWN, 21);
+        Due.faulty("wide 1000;", RANGE, 5);
+        Due.faulty("wide", SYNTAX, 4);
+        Due.faulty("wide ", SYNTAX, 5);
+        Due.faulty("wide 10  \n", SYNTAX, 10);
+        Due.faulty("wide 10;hut", SYNTAX, 11);
+        StringBuilder text = new StringBuilder("wide 10");
+        while (text.length() < 900) {
+            text.append('\n');
         }
+        Due.faulty(text.toString(), SYNTAX, 900);
+    }
 
-        private boolean names(String keyword, int words, Set<String> used) {
-            String first = "";
-            for (int w = 0; w < words; w++) {
-                String name = tokens.get(next);
-                if (!name.matches("[a-z]{1,8}")) {
-                    return refuse(1);
-                }
-                boolean reference = keyword.equals("count") || keyword.equals("run");
-                if (reference && !used.contains("hut " + name)) {
-                    return refuse(5);
-                }
-                if (keyword.equals("run") && w == 0) {
-                    first = name;
-                } else if (keyword.equals("run")) {
-                    boolean fresh = !name.equals(first) && used.add("run " + first + " " + name);
-                    used.add("run " + name + " " + first);
-                    if (!fresh) {
-                        return refuse(3);
+    private static void firstFault() {
+        Due.term("I", "the first come to as TOKENS are read one by one");
+        Due.faulty("wide 9;hat", RANGE, 5);
+        Due.faulty("wide 9 9", RANGE, 5);
+        Due.faulty("hut a 401 0 41;", RANGE, 6);
+        Due.faulty("hut a 1 0 41;", RANGE, 8);
+        Due.faulty("hut a 1 1 41 1", RANGE, 10);
+        Due.faulty(A + "hut a 401 1 1;", TWICE, 16);
+        Due.faulty(A + "hut a", TWICE, 16);
+        Due.faulty("count a 100;", UNKNOWN, 6);
+        Due.faulty(A + "run b b 61;", UNKNOWN, 16);
+        Due.faulty(A + "run a c 61;", UNKNOWN, 18);
+        Due.faulty("wide 10;wide", TWICE, 8);
+        Due.faulty("wide 10;wide 9;", TWICE, 8);
+        Due.faulty(FIVE + "hut", ROOM, FIVE.length());
+        Due.faulty(FIVE + "hut a 401 1 1;", ROOM, FIVE.length());
+        Due.faulty("hut a 1 1 1 hut a", SYNTAX, 12);
+        // A clause that has no ";" yet has told nothing.
+        Due.faulty("hut a 1 1 1 count a 1;", SYNTAX, 12);
+    }
+
+    private static void leastKind() {
+        Due.term("I", "of one TOKEN the least KIND");
+        Due.faulty("wide 99999;", SYNTAX, 5);
+        Due.faulty("count abcdefghi 1;", SYNTAX, 6);
+        Due.faulty("hut abcdefgh 1 1 1;hut abcdefghi 1 1 1;", SYNTAX, 23);
+        Due.faulty(A + "count 7 1;", SYNTAX, 18);
+        Due.faulty("wide 10;wide1", TWICE, 8);
+        Due.faulty("wide 10;widex", SYNTAX, 8);
+    }
+
+    /** Each clause's TOKENS; at each place each other TOKEN, byte, too long run and the end. */
+    private static void syntax() {
+        Due.term("I", "1 SYNTAX: a TOKEN (or byte that is none, a run that is too long) with which no text goes on");
+        String[] clauses = {"hut c 1 1 1 ;", "garden c 1 1 1 ;", "count a 1 ;", "run a b 1 ;", "look c 1 ;", "bed 1 1 ;",
+            "wide 10 ;", "wood 1 ;", "sand 1 ;", "walk 1 ;", "reach 1 ;", "board 1 ;", "air 10 ;", "pace 1 ;", "fall 1 ;"};
+        String[] pieces = {"b", "hut", "12", ";", "!", "A", "abcdefghi", "00001", "\u00ff", ""};
+        for (String clause : clauses) {
+            Due.good(A_B + clause, 3);
+            String[] tokens = clause.split(" ");
+            StringBuilder front = new StringBuilder(A_B);
+            for (int i = 0; i < tokens.length; i++) {
+                for (String piece : pieces) {
+                    boolean goesOn = i == 0 ? piece.equals("hut") || piece.isEmpty()
+                        : tokens[i].equals(piece) || tokens[i].matches("[a-z]+") && piece.matches("[a-z]{1,8}")
+                        || tokens[i].matches("[0-9]+") && piece.equals("12");
+                    if (!goesOn) {
+                        Due.faulty(front + piece, SYNTAX, front.length());
                     }
-                } else if (!used.add(keyword + " " + name)) {
-                    return refuse(3);
                 }
-                next++;
+                front.append(tokens[i]).append(' ');
             }
-            return true;
         }
+        String[] noKeywords = {"hat", "huts", "hu", "gardens", "c", "beds", "b", "walks", "floor", "abcdefgh"};
+        for (String word : noKeywords) {
+            Due.faulty(word + " 1;", SYNTAX, 0);
+        }
+    }
+
+    private static void range() {
+        Due.term("I", "2 RANGE: an N out of its bounds");
+        Due.faulty("hut a 401 1 1;", RANGE, 6);
+        Due.faulty("hut a 1 0 1;", RANGE, 8);
+        Due.faulty("hut a 1 1 0;", RANGE, 10);
+        Due.faulty("bed 21 1;", RANGE, 4);
+        Due.faulty("bed 1 21;", RANGE, 6);
+        Due.faulty("air 0009;", RANGE, 4);
+        Due.faulty("fall 51", RANGE, 5);
+    }
+
+    private static void twice() {
+        Due.term("I", "3 TWICE: a name that one of its kind has");
+        Due.faulty(FIVE.substring(0, 48) + "hut a 1 1 1;", TWICE, 52);
+        Due.faulty(FIVE.substring(0, 48) + "hut d 1 1 1;", TWICE, 52);
+        Due.faulty("garden a 1 1 1;garden b 1 1 1;garden c 1 1 1;garden a 1 1 1;", TWICE, 52);
+        Due.faulty("look a 1;look b 1;look c 1;look c 1;", TWICE, 32);
+        Due.term("I", "the name of a HUT that is counted already");
+        Due.faulty(A + "count a 0;count a 0;", TWICE, 28);
+        Due.faulty(A_B + "count a 1;count b 1;count a 2;", TWICE, 50);
+        Due.good(A_B + "count b 1;count a 1;", 4);
+        Due.term("I", "the second name of a run that is its first");
+        Due.faulty(A + "run a a 5;", TWICE, 18);
+        Due.faulty(A_B + "run b b 5;", TWICE, 30);
+        Due.term("I", "or of two HUTS that have one");
+        Due.faulty(A_B + "run a b 0;run a b 0;", TWICE, 40);
+        Due.faulty(A_B + "run a b 5;run b a 6;", TWICE, 40);
+        Due.good(FIVE + "run a b 1;run a c 1;run a d 1;run a e 1;run b c 1;run b d 1;run b e 1;run c d 1;run c e 1;run e d 1;", 15);
+        Due.term("I", "bed, wide, wood .. again");
+        Due.faulty("bed 1 1;bed 1 1;", TWICE, 8);
+        // What tells just what isn't told is told all the same.
+        Due.faulty("bed 8 4; bed 8 4;", TWICE, 9);
+        int[] untold = {200, 100, 10, 6, 200, 2, 60, 5, 0};
+        for (int i = 0; i < SETTINGS.length; i++) {
+            String once = SETTINGS[i] + " " + untold[i] + ";";
+            Due.faulty(once + once, TWICE, once.length());
+            Due.faulty(once + "hut a 1 1 1; " + SETTINGS[i], TWICE, once.length() + 13);
+        }
+    }
+
+    private static void room() {
+        Due.term("I", "4 ROOM: a HUT, GARDEN, LOOK too many, at its first WORD");
+        Due.faulty(FIVE + "hut f 1 1 1;", ROOM, FIVE.length());
+        Due.faulty(FIVE + " \nhut a 1 1 1;", ROOM, FIVE.length() + 2);
+        String gardens = "garden a 1 1 1;garden b 1 1 1;garden c 1 1 1;garden d 1 1 1;";
+        Due.faulty(gardens + "  garden e 1 1 1;", ROOM, gardens.length() + 2);
+        Due.faulty(gardens + "garden a 1 1 1;", ROOM, gardens.length());
+        String looks = "look a 1;look b 1;look c 1;look d 1;";
+        Due.faulty(looks + "\nlook e 1;", ROOM, looks.length() + 1);
+        Due.faulty(looks + "look", ROOM, looks.length());
+        // Room for one kind is no room for another.
+        Due.good(gardens + looks + "hut e 1 1 1;", 9);
+        Due.good(FIVE + "garden a 1 1 1;look a 1;", 7);
+    }
+
+    private static void unknown() {
+        Due.term("I", "5 UNKNOWN: a W that should be a HUT's name and is none");
+        Due.faulty("count a 1;", UNKNOWN, 6);
+        Due.faulty("count a 1;hut a 1 1 1;", UNKNOWN, 6);
+        Due.faulty("run a b 5;", UNKNOWN, 4);
+        Due.faulty(A + "run a b 5;", UNKNOWN, 18);
+        Due.faulty(A + "run b a 5;", UNKNOWN, 16);
+        Due.faulty(A + "run b b 5;", UNKNOWN, 16);
+        Due.faulty("garden g 1 1 1;look g 1;count g 1;", UNKNOWN, 30);
+        Due.faulty("hut abc 1 1 1;count ab 1;", UNKNOWN, 20);
+        Due.faulty("hut ab 1 1 1;count abc 1;", UNKNOWN, 19);
+        // A HUT of an earlier CAMP is none.
+        TrouserSand x = Due.withCamp(A_B);
+        Due.is("camp()", Due.camp(x, "hut c 1 1 1;count b 1;"), -1);
+        Due.is("fault(0)", x.fault(0), UNKNOWN);
+        Due.is("fault(1)", x.fault(1), 18);
+        Due.is("nor one of a faulty text", Due.camp(x, "count c 1;"), -1);
+        Due.is("fault(0)", x.fault(0), UNKNOWN);
     }
 }

@@ -7,9 +7,12 @@ import java.util.regex.Pattern;
 
 /** The rules of LANGUAGE.md that a look at the text can tell. */
 public final class LanguageTest {
-    private static final String[] REFUSED = {"\\b(throw|try|catch|synchronized|assert|native|transient|volatile)\\b", "->",
-        "::", "\\+ *\"", "\" *\\+", "\\bString\\[\\]", "\\bObject\\b", "\\bSystem\\.(?!arraycopy)", "Exact\\(", "\\bRandom\\b",
-        "^import (?!java\\.util\\.(Arrays|ArrayList|List);)", "\\.(equals|hashCode|toString)\\(", "\\bnull\\b", "\\bpackage\\b"};
+    private static final String[] REFUSED = {"\\b(throw|throws|try|catch|synchronized|assert|native|transient|volatile)\\b", "->", "::",
+        "\\+ *\"", "\" *\\+", "\\bObject\\b", "\\bSystem\\.(?!arraycopy)", "Exact\\(", "\\b(Random|Thread|File)\\b",
+        "^import (?!java\\.util\\.(Arrays|ArrayList|List|Iterator);)", "\\bhashCode\\b", "^package\\b", "[^\\x00-\\x7e]"};
+    private static final String NESTED = "    (private )?static (final |abstract )?(class|interface) \\w+.*\\{|    (private )?(static )?(final )?(record|enum) \\w+.*\\{";
+    private static final int LONGEST_METHOD = 60;
+    private static final int MOST_CLASSES = 12;
 
     public static void main(String[] args) throws Exception {
         List<String> lines = Files.readAllLines(Paths.get("src/main/java/TrouserSand.java"), StandardCharsets.UTF_8);
@@ -17,26 +20,35 @@ public final class LanguageTest {
         int methodFrom = -1;
         for (int i = 0; i < lines.size(); i++) {
             String line = lines.get(i).replaceAll("//.*|/\\*\\*.*", "");
-            for (String refused : REFUSED) {
-                Matcher m = Pattern.compile(refused).matcher(line);
-                Due.is("line " + (i + 1) + " has " + refused, m.find() ? 1 : 0, 0);
-            }
-            if (line.matches(".*\\bclass\\b.*\\{")) {
+            refused(line, i + 1);
+            if (line.matches(".*\\b(class|record|enum|interface)\\b.*\\{")) {
                 classes++;
-                Due.is("line " + (i + 1) + ": a class is static and private, or the face",
-                    line.matches("public final class TrouserSand \\{|    private static final class \\w+ \\{") ? 1 : 0, 1);
-            } else if (line.matches("(    |        )[\\w\\[\\] ]+\\([^)]*\\) \\{") && !line.matches(" *(if|for|while|switch).*")) {
+                Due.holds("line " + (i + 1) + ": a class is the face, or static and inside it",
+                    line.matches("public final class TrouserSand \\{") || line.matches(NESTED));
+            } else if (isMethod(line)) {
                 methodFrom = i;
-            } else if (line.matches("(    |        )\\}") && methodFrom >= 0 && line.indexOf('}') == indent(lines.get(methodFrom))) {
-                Due.is("line " + (methodFrom + 1) + ": a method of some sixty lines at most", i - methodFrom > 60 ? 1 : 0, 0);
+                Due.holds("line " + (i + 1) + ": seven parameters at most", line.split(",").length <= 7);
+            } else if (methodFrom >= 0 && line.matches(" *\\}") && indent(line) == indent(lines.get(methodFrom))) {
+                Due.holds("line " + (methodFrom + 1) + ": a method of some sixty lines at most", i - methodFrom <= LONGEST_METHOD);
                 methodFrom = -1;
             }
             if (line.contains(" static ") && line.contains("=") && !line.contains("(")) {
-                Due.is("line " + (i + 1) + ": a static field is final", line.contains("static final") ? 1 : 0, 1);
+                Due.holds("line " + (i + 1) + ": a static field is final", line.contains("static final"));
             }
         }
-        Due.is("at most some twelve classes", classes <= 12 ? 1 : 0, 1);
+        Due.holds("at most some twelve classes", classes <= MOST_CLASSES);
         Due.finish();
+    }
+
+    private static void refused(String line, int number) {
+        for (String refused : REFUSED) {
+            Matcher m = Pattern.compile(refused).matcher(line);
+            Due.holds("line " + number + " has no " + refused, !m.find());
+        }
+    }
+
+    private static boolean isMethod(String line) {
+        return line.matches("(    |        )[\\w\\[\\] ]+\\([^)]*\\) \\{") && !line.matches(" *(if|for|while|switch)\\b.*");
     }
 
     private static int indent(String line) {
