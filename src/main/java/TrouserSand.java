@@ -657,13 +657,11 @@ public final class TrouserSand {
             "hut     garden  count   run     look    bed     wide    wood    sand    walk    reach   board   air     pace    fall    ";
         private static final int[] WORDS = {1, 1, 1, 2, 1, 0, 0, 0, 0, 0, 0, 0, 0, 0, 0};
         private static final int[] NUMBERS = {3, 3, 1, 1, 1, 2, 1, 1, 1, 1, 1, 1, 1, 1, 1};
-        // Three places for each keyword, as no clause has more numbers.
-        private static final int[] LEAST = {
-            0, 1, 1, 0, 0, 0, 0, 0, 0, 0, 0, 0, 0, 0, 0, 0, 0, 0,
-            10, 0, 0, 0, 0, 0, 1, 0, 0, 1, 0, 0, 0, 0, 0, 0, 0, 0, 10, 0, 0, 1, 0, 0, 0, 0, 0};
+        // Of each keyword where the bounds of its numbers begin.
+        private static final int[] BOUNDS_FROM = {0, 3, 6, 7, 8, 9, 11, 12, 13, 14, 15, 16, 17, 18, 19};
+        private static final int[] LEAST = {0, 1, 1, 0, 0, 0, 0, 0, 0, 0, 0, 10, 0, 1, 1, 0, 0, 10, 1, 0};
         private static final int[] GREATEST = {
-            400, 300, 40, 400, 999, 9999, 99, 0, 0, 60, 0, 0, 99, 0, 0, 20, 20, 0,
-            400, 0, 0, 300, 0, 0, 99, 0, 0, 40, 0, 0, 700, 0, 0, 9, 0, 0, 200, 0, 0, 50, 0, 0, 50, 0, 0};
+            400, 300, 40, 400, 999, 9999, 99, 60, 99, 20, 20, 400, 300, 99, 40, 700, 9, 200, 50, 50};
 
         private final long[] keywords = new long[WORDS.length];
         private final int[] numbers = new int[3];
@@ -861,7 +859,7 @@ public final class TrouserSand {
             if (token != NUMBER || i < 0 || i >= numbers.length) {
                 return SYNTAX;
             }
-            int bound = keyword * numbers.length + i;
+            int bound = BOUNDS_FROM[keyword] + i;
             if (number < LEAST[bound] || number > GREATEST[bound]) {
                 return OUT_OF_BOUNDS;
             }
@@ -1363,6 +1361,8 @@ public final class TrouserSand {
         private static final int MOST_PEOPLE = 8;
         private static final int MOST_ROUNDS = 5;
         private static final int SETS = 256;
+        // Later than any who goes can be out.
+        private static final int NEVER = 10000;
 
         private final int[] needs = new int[MOST_PEOPLE];
         private final int[] roundFrom = new int[MOST_ROUNDS];
@@ -1473,7 +1473,7 @@ public final class TrouserSand {
         private void reckonEarliest() {
             earliest[0] = 0;
             for (int set = 1; set < 1 << people; set++) {
-                int least = Integer.MAX_VALUE;
+                int least = NEVER;
                 for (int p = 0; p < people; p++) {
                     if ((set >> p & 1) != 0) {
                         least = Math.min(least, outFrom(earliest[set & ~(1 << p)], p));

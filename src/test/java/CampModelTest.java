@@ -35,7 +35,7 @@ public final class CampModelTest {
         }
     }
 
-    private static String randomText(Random random) {
+    static String randomText(Random random) {
         StringBuilder text = new StringBuilder();
         int clauses = random.nextInt(14);
         for (int c = 0; c < clauses; c++) {
@@ -71,7 +71,7 @@ public final class CampModelTest {
     }
 
     /** The same grammar read in another way: all TOKENS first, then clause by clause. */
-    private static final class Model {
+    static final class Model {
         static final Map<String, int[]> SHAPES = new HashMap<>();
 
         static {

@@ -1,3 +1,5 @@
+import java.lang.reflect.Method;
+import java.lang.reflect.Modifier;
 import java.nio.charset.StandardCharsets;
 import java.nio.file.Files;
 import java.nio.file.Paths;
@@ -28,6 +30,7 @@ public final class LanguageTest {
             } else if (isMethod(line)) {
                 methodFrom = i;
                 Due.holds("line " + (i + 1) + ": seven parameters at most", line.split(",").length <= 7);
+                Due.holds("line " + (i + 1) + ": a name that no public method has", line.contains("public ") || !isOfTheFace(line));
             } else if (methodFrom >= 0 && line.matches(" *\\}") && indent(line) == indent(lines.get(methodFrom))) {
                 Due.holds("line " + (methodFrom + 1) + ": a method of some sixty lines at most", i - methodFrom <= LONGEST_METHOD);
                 methodFrom = -1;
@@ -49,6 +52,16 @@ public final class LanguageTest {
 
     private static boolean isMethod(String line) {
         return line.matches("(    |        )[\\w\\[\\] ]+\\([^)]*\\) \\{") && !line.matches(" *(if|for|while|switch)\\b.*");
+    }
+
+    private static boolean isOfTheFace(String line) {
+        String name = line.replaceAll("\\(.*", "").replaceAll(".* ", "");
+        for (Method m : TrouserSand.class.getDeclaredMethods()) {
+            if (Modifier.isPublic(m.getModifiers()) && m.getName().equals(name)) {
+                return true;
+            }
+        }
+        return false;
     }
 
     private static int indent(String line) {

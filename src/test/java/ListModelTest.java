@@ -40,7 +40,7 @@ public final class ListModelTest {
         }
     }
 
-    private static void draw(long[] s, List<Integer> left, List<Integer> due, int group, int n) {
+    static void draw(long[] s, List<Integer> left, List<Integer> due, int group, int n) {
         for (int i = 0; i < n; i++) {
             List<Integer> of = new ArrayList<>();
             for (int p : left) {

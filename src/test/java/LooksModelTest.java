@@ -41,7 +41,7 @@ public final class LooksModelTest {
         }
     }
 
-    private static int shifts(int air, int pace, int feet, int men) {
+    static int shifts(int air, int pace, int feet, int men) {
         int dug = 0;
         int over = 0;
         for (int s = 1; s <= 400; s++) {
@@ -60,7 +60,7 @@ public final class LooksModelTest {
         return -1;
     }
 
-    private static int chance(int[] looks, int bits, int days) {
+    static int chance(int[] looks, int bits, int days) {
         if (days < 0) {
             return 0;
         }

@@ -44,7 +44,7 @@ public final class NightModelTest {
     }
 
     /** Tries each ORDER, minute by minute. */
-    private static final class Model {
+    static final class Model {
         private final int[] needs;
         private final boolean[] closed;
         private final int[] row = new int[8];
@@ -87,7 +87,7 @@ public final class NightModelTest {
             }
         }
 
-        private int leaves(int minute, int need) {
+        int leaves(int minute, int need) {
             int free = 0;
             int m = minute;
             while (free < need) {
