@@ -2,16 +2,42 @@ import java.lang.reflect.Constructor;
 import java.lang.reflect.Field;
 import java.lang.reflect.Method;
 import java.lang.reflect.Modifier;
+import java.nio.charset.StandardCharsets;
+import java.nio.file.Files;
+import java.nio.file.Path;
+import java.nio.file.Paths;
 import java.util.Arrays;
 import java.util.TreeSet;
 
 /** The public face and the constants. */
 public final class FaceTest {
-    public static void main(String[] args) {
+    public static void main(String[] args) throws Exception {
         methods();
         constants();
         constructor();
+        asTheDocumentWritesIt();
         Due.finish();
+    }
+
+    /** Reflection doesn't tell how parameters are named: the lines of the two texts do. */
+    private static void asTheDocumentWritesIt() throws Exception {
+        Path document = Paths.get("../shared/DOC.md");
+        if (Files.isReadable(document)) {
+            TreeSet<String> due = publicLines(document);
+            Due.is("public members in the document", due.size(), 4 + 1 + 39);
+            TreeSet<String> written = publicLines(Paths.get("src/main/java/TrouserSand.java"));
+            Due.holds("the public members are written as in the document: " + written, written.equals(due));
+        }
+    }
+
+    private static TreeSet<String> publicLines(Path text) throws Exception {
+        TreeSet<String> lines = new TreeSet<>();
+        for (String line : Files.readAllLines(text, StandardCharsets.UTF_8)) {
+            if (line.startsWith("    public ")) {
+                lines.add(line.replaceFirst("( \\{|;)$", ""));
+            }
+        }
+        return lines;
     }
 
     private static void methods() {

@@ -35,6 +35,9 @@ public final class LanguageTest {
                 Due.holds("line " + (methodFrom + 1) + ": a method of some sixty lines at most", i - methodFrom <= LONGEST_METHOD);
                 methodFrom = -1;
             }
+            if (methodFrom >= 0 && !isConstructor(lines.get(methodFrom))) {
+                Due.holds("line " + (i + 1) + ": calls make no objects, constructors do", !line.matches(".*\\b(new|clone|copyOf\\w*|substring)\\b.*"));
+            }
             if (line.contains(" static ") && line.contains("=") && !line.contains("(")) {
                 Due.holds("line " + (i + 1) + ": a static field is final", line.contains("static final"));
             }
@@ -52,6 +55,11 @@ public final class LanguageTest {
 
     private static boolean isMethod(String line) {
         return line.matches("(    |        )[\\w\\[\\] ]+\\([^)]*\\) \\{") && !line.matches(" *(if|for|while|switch)\\b.*");
+    }
+
+    /** A method has a type ahead of its name. */
+    private static boolean isConstructor(String line) {
+        return line.matches(" *(public |private )?\\w+\\(.*");
     }
 
     private static boolean isOfTheFace(String line) {
